@@ -129,9 +129,9 @@ public final class SchoolPlaces {
             case 2: return row.rule;
             case 3: return row.limit;
             case 4: return row.added;
-            case 5: return desk.rollLength(school, Roll.HOLDERS);
+            case 5: return desk.countHolders(school);
             case 6: return desk.freeSeats(school);
-            case 7: return desk.rollLength(school, Roll.WAITERS);
+            case 7: return desk.countWaiters(school);
             case 8: return desk.countInCatchment(row);
             default: throw new IllegalArgumentException("what is out of range");
         }
@@ -220,7 +220,7 @@ public final class SchoolPlaces {
             case 2: return row.need;
             case 3: return row.choiceCount;
             case 4: return row.seat;
-            case 5: return row.seatPlace();
+            case 5: return row.placeOf(row.seat);
             case 6: return row.marks;
             case 7: return row.appeals;
             default: throw new IllegalArgumentException("what is out of range");
@@ -526,6 +526,7 @@ public final class SchoolPlaces {
             appeals = other.appeals;
         }
 
+        /** Nothing, and so a seat at no school, has no place. */
         int placeOf(int wanted) {
             for (int i = 0; i < choiceCount; i++) {
                 if (choices[i] == wanted) {
@@ -535,16 +536,12 @@ public final class SchoolPlaces {
             return NONE;
         }
 
-        int seatPlace() {
-            return seat == NONE ? NONE : placeOf(seat);
-        }
-
         boolean prefers(int wanted) {
             int place = placeOf(wanted);
             if (place == NONE) {
                 return false;
             }
-            int present = seatPlace();
+            int present = placeOf(seat);
             return present == NONE || place < present;
         }
 
@@ -664,14 +661,24 @@ public final class SchoolPlaces {
             return roll == Roll.HOLDERS ? row.seat == school : row.prefers(school);
         }
 
-        int rollLength(int school, Roll roll) {
-            int length = 0;
+        int countHolders(int school) {
+            int count = 0;
             for (int i = 0; i < childCount; i++) {
-                if (isOn(children[i], school, roll)) {
-                    length++;
+                if (children[i].seat == school) {
+                    count++;
                 }
             }
-            return length;
+            return count;
+        }
+
+        int countWaiters(int school) {
+            int count = 0;
+            for (int i = 0; i < childCount; i++) {
+                if (children[i].prefers(school)) {
+                    count++;
+                }
+            }
+            return count;
         }
 
         /** The children on the list who have a better rank than the child, whether it is on it or not. */
@@ -712,7 +719,7 @@ public final class SchoolPlaces {
 
         int freeSeats(int school) {
             int all = schools[school].seats + schools[school].added;
-            return Math.max(0, all - rollLength(school, Roll.HOLDERS));
+            return Math.max(0, all - countHolders(school));
         }
 
         boolean holdsWorse(int child, int school) {
@@ -833,7 +840,7 @@ public final class SchoolPlaces {
         int countAtFirstChoice() {
             int count = 0;
             for (int i = 0; i < childCount; i++) {
-                if (children[i].seatPlace() == 0) {
+                if (children[i].placeOf(children[i].seat) == 0) {
                     count++;
                 }
             }

@@ -596,6 +596,18 @@ public final class PromiseTests {
     read(p, "99,1f1l999:0");
     read(p, "99,2f1l0:0");
     due(list(p, 0, false), "0 1 2 4 3 5 6");
+    // the furthest child of a class, with the highest lot, comes before the nearest of the next one
+    SchoolPlaces q = new SchoolPlaces();
+    q.addSchool(0, 0, 9, 198);
+    read(q, "0,0f0l0:0");
+    read(q, "99,99f1l999:0");
+    read(q, "99,99f2l999:0");
+    q.setPupils(1, 0, true);
+    due(list(q, 0, false), "1 0 2");
+    q.setNeed(2, 0);
+    due(list(q, 0, false), "2 1 0");
+    q.setPupils(0, 0, true);
+    due(list(q, 0, false), "2 0 1");
   }
 
   private static void why() {
@@ -1190,5 +1202,60 @@ public final class PromiseTests {
     due(p.undo(), 0);
     due(p.school(0, 3), 40);
     due(p.restore(), 2);
+    restoreAfterOthers();
+    restoreToFew();
+  }
+
+  /** What took the numbers of saved schools, children and entries does not stay. */
+  private static void restoreAfterOthers() {
+    SchoolPlaces p = new SchoolPlaces();
+    p.addSchool(1, 2, 1, 5);
+    read(p, "3,4f5l6:0");
+    p.allocate();
+    String saved = Calls.everything(p);
+    p.save();
+    for (int i = 0; i < 3; i++) p.undo();
+    p.addSchool(50, 60, 2, 7);
+    read(p, "7,8f9l10:0");
+    read(p, "7,8f9l10:0");
+    p.setNeed(1, 0);
+    p.setSeats(0, 1);
+    p.withdraw(1);
+    due(p.entry(1, 0), 3);
+    due(p.entry(0, 1), 1);
+    p.restore();
+    due(withoutUndos(Calls.everything(p)), withoutUndos(saved));
+  }
+
+  /** Children and schools that are gone count nowhere. */
+  private static void restoreToFew() {
+    SchoolPlaces p = schools("0");
+    read(p, "0,0f0l0:0");
+    String saved = Calls.everything(p);
+    p.save();
+    p.addSchool(0, 0, 5, 5);
+    for (int i = 0; i < 5; i++) read(p, i + ",0f0l0:01");
+    p.allocate();
+    p.setSeats(0, 1);
+    p.appeal(1, 0, 100);
+    due(p.restore(), 0);
+    due(withoutUndos(Calls.everything(p)), withoutUndos(saved));
+    due(p.setSeats(0, 5), 1);
+    due(p.account(4), 1);
+    due(p.allocate(), 1);
+    due(p.account(8), 1);
+    // new schools and children take nothing over from those that are gone
+    SchoolPlaces q = new SchoolPlaces();
+    q.save();
+    q.addSchool(0, 0, 0, 0);
+    read(q, "0,0f0l0:0");
+    due(q.appeal(0, 0, 100), 0);
+    q.restore();
+    q.addSchool(0, 0, 0, 0);
+    q.addChild(0, 0, 0, 0);
+    due(q.school(0, 4), 0);
+    due(q.child(0, 3), 0);
+    due(q.child(0, 4), -1);
+    due(q.child(0, 7), 0);
   }
 }
