@@ -1,15 +1,7 @@
 import java.util.NoSuchElementException;
 
 /** For each promise of the document: ordinary inputs, the edges that it names, and wrong inputs. */
-public final class PromiseTests {
-  private static final int LEAST = Integer.MIN_VALUE;
-  private static final int MOST = Integer.MAX_VALUE;
-
-  private static int wrong = 0;
-  private static int promise = 0;
-
-  interface Call { void make(); }
-
+public final class PromiseTests extends Checks {
   public static void main(String[] args) {
     Call[] all = {PromiseTests::newObject, PromiseTests::addSchool, PromiseTests::setSeats, PromiseTests::setRadius,
       PromiseTests::setRule, PromiseTests::setLimit, PromiseTests::setPupils, PromiseTests::school, PromiseTests::held,
@@ -18,116 +10,12 @@ public final class PromiseTests {
       PromiseTests::again, PromiseTests::unstable, PromiseTests::withdraw, PromiseTests::appeal, PromiseTests::reason,
       PromiseTests::entry, PromiseTests::account, PromiseTests::meanDistance, PromiseTests::feed,
       PromiseTests::errorPosition, PromiseTests::undo, PromiseTests::save, PromiseTests::restore};
-    for (Call test : all) {
-      promise++;
-      test.make();
+    for (int i = 0; i < all.length; i++) {
+      about = "promise " + (i + 1);
+      all[i].make();
     }
     System.out.println(wrong == 0 ? "PromiseTests: all promises hold" : "PromiseTests: " + wrong + " answers are wrong");
     if (wrong != 0) System.exit(1);
-  }
-
-  // ---- helpers
-
-  private static void fault(String text) {
-    wrong++;
-    System.out.println("promise " + promise + ", line " + line() + ": " + text);
-  }
-
-  private static int line() {
-    int last = 0;
-    for (StackTraceElement e : new Throwable().getStackTrace()) {
-      String name = e.getMethodName();
-      boolean helper = name.equals("line") || name.equals("fault") || name.startsWith("due") || name.startsWith("lambda");
-      if (!helper && last == 0) last = e.getLineNumber();
-    }
-    return last;
-  }
-
-  private static void due(long got, long want) { if (got != want) fault("answered " + got + ", due is " + want); }
-
-  private static void due(boolean got, boolean want) { if (got != want) fault("answered " + got + ", due is " + want); }
-
-  private static void due(String got, String want) {
-    if (!got.equals(want)) fault("answered\n" + got + "\ndue is\n" + want);
-  }
-
-  private static void dueThrow(Class<?> kind, Call call) {
-    try {
-      call.make();
-      fault("threw nothing, due is " + kind.getSimpleName());
-    } catch (RuntimeException e) {
-      if (e.getClass() != kind) fault("threw " + e + ", due is " + kind.getSimpleName());
-    }
-  }
-
-  /** The exception is due, and nothing that can be asked may be changed by the call. */
-  private static void dueThrow(SchoolPlaces p, Class<?> kind, Call call) {
-    String before = Calls.everything(p);
-    dueThrow(kind, call);
-    due(Calls.everything(p), before);
-  }
-
-  private static void dueIndex(SchoolPlaces p, Call call) { dueThrow(p, IndexOutOfBoundsException.class, call); }
-
-  private static void dueArgument(SchoolPlaces p, Call call) { dueThrow(p, IllegalArgumentException.class, call); }
-
-  private static void dueState(SchoolPlaces p, Call call) { dueThrow(p, IllegalStateException.class, call); }
-
-  private static void dueNone(SchoolPlaces p, Call call) { dueThrow(p, NoSuchElementException.class, call); }
-
-  private static void feed(SchoolPlaces p, String text) {
-    for (char c : text.toCharArray()) p.feed(c);
-  }
-
-  private static int read(SchoolPlaces p, String text) {
-    feed(p, text);
-    return p.readChild();
-  }
-
-  private static void dueWrongText(SchoolPlaces p, String text, int position) {
-    String before = Calls.everything(p);
-    feed(p, text);
-    dueThrow(IllegalArgumentException.class, p::readChild);
-    due(p.errorPosition(), position);
-    due(p.account(10), 0);
-    due(withoutError(Calls.everything(p)), withoutError(before));
-  }
-
-  /** Takes the error position (the third text behind the numbers) out of what Calls.everything tells. */
-  private static String withoutError(String all) {
-    String[] parts = all.split(" ");
-    parts[15] = "?";
-    return String.join(" ", parts);
-  }
-
-  private static String entryOf(SchoolPlaces p, int e) {
-    return p.entry(e, 0) + ":" + p.entry(e, 1) + ":" + p.entry(e, 2) + ":" + p.entry(e, 3);
-  }
-
-  private static String list(SchoolPlaces p, int school, boolean held) {
-    StringBuilder all = new StringBuilder();
-    int length = p.school(school, held ? 5 : 7);
-    for (int i = 0; i < length; i++) all.append(i > 0 ? " " : "").append(held ? p.held(school, i) : p.waiting(school, i));
-    return all.toString();
-  }
-
-  private static String choices(SchoolPlaces p, int child) {
-    StringBuilder all = new StringBuilder();
-    for (int i = 0; i < p.child(child, 3); i++) all.append(p.choice(child, i));
-    return all.toString();
-  }
-
-  private static String seats(SchoolPlaces p) {
-    StringBuilder all = new StringBuilder();
-    for (int c = 0; c < p.account(1); c++) all.append(c > 0 ? " " : "").append(p.child(c, 4));
-    return all.toString();
-  }
-
-  /** Schools that all stand at 0, 0, with radius 20 and the seats that the digits tell. */
-  private static SchoolPlaces schools(String seats) {
-    SchoolPlaces p = new SchoolPlaces();
-    for (int i = 0; i < seats.length(); i++) p.addSchool(0, 0, seats.charAt(i) - '0', 20);
-    return p;
   }
 
   // ---- schools and families
@@ -176,7 +64,7 @@ public final class PromiseTests {
   }
 
   private static void setSeats() {
-    SchoolPlaces p = schools("110");
+    SchoolPlaces p = desk("110");
     read(p, "0,0f0l0:0");
     read(p, "1,0f1l0:01");
     read(p, "2,0f2l0:012");
@@ -206,7 +94,7 @@ public final class PromiseTests {
 
   /** Seats are filled at all schools, also if the school itself holds more than its seats. */
   private static void setSeatsElsewhere() {
-    SchoolPlaces p = schools("21");
+    SchoolPlaces p = desk("21");
     read(p, "0,0f0l0:0");
     read(p, "1,0f1l0:0");
     p.allocate();
@@ -218,7 +106,7 @@ public final class PromiseTests {
 
   /** One child climbs from school to school, and each seat that it gets counts; the lowest school comes first. */
   private static void setSeatsOneByOne() {
-    SchoolPlaces p = schools("001");
+    SchoolPlaces p = desk("001");
     read(p, "0,0f0l0:210");
     p.setSeats(2, 0);
     due(p.setSeats(1, 0), 0);
@@ -226,7 +114,7 @@ public final class PromiseTests {
     due(p.setSeats(1, 1), 1);
     due(p.setSeats(2, 1), 1);
     due(entryOf(p, 2), "1:0:1:2");
-    SchoolPlaces q = schools("111");
+    SchoolPlaces q = desk("111");
     read(q, "0,0f0l0:210");
     read(q, "5,0f1l0:0");
     due(q.setSeats(0, 1), 4);
@@ -238,7 +126,7 @@ public final class PromiseTests {
   }
 
   private static void setRadius() {
-    SchoolPlaces p = schools("1");
+    SchoolPlaces p = desk("1");
     p.addChild(21, 0, 0, 0);
     due(p.rank(0, 0, 0), 4);
     due(p.setRadius(0, 21), 20);
@@ -253,7 +141,7 @@ public final class PromiseTests {
   }
 
   private static void setRule() {
-    SchoolPlaces p = schools("1");
+    SchoolPlaces p = desk("1");
     p.addChild(50, 0, 3, 0);
     p.setPupils(3, 0, true);
     due(p.rank(0, 0, 0), 3);
@@ -270,7 +158,7 @@ public final class PromiseTests {
   }
 
   private static void setLimit() {
-    SchoolPlaces p = schools("1");
+    SchoolPlaces p = desk("1");
     due(p.setLimit(0, 100), 50);
     due(p.setLimit(0, 0), 100);
     due(p.setLimit(0, 33), 0);
@@ -282,7 +170,7 @@ public final class PromiseTests {
   }
 
   private static void setPupils() {
-    SchoolPlaces p = schools("111111");
+    SchoolPlaces p = desk("111111");
     p.addChild(0, 0, 11, 0);
     p.addChild(0, 0, 10, 0);
     due(p.setPupils(11, 5, true), false);
@@ -305,7 +193,7 @@ public final class PromiseTests {
   }
 
   private static void school() {
-    SchoolPlaces p = schools("21");
+    SchoolPlaces p = desk("21");
     p.setRule(1, 1);
     p.setLimit(0, 5);
     read(p, "0,20f0l0:0");
@@ -331,7 +219,7 @@ public final class PromiseTests {
   }
 
   private static void held() {
-    SchoolPlaces p = schools("4");
+    SchoolPlaces p = desk("4");
     read(p, "3,0f0l9:0");
     read(p, "2,0f1l9:0");
     read(p, "0,3f2l8:0");
@@ -348,7 +236,7 @@ public final class PromiseTests {
   }
 
   private static void waiting() {
-    SchoolPlaces p = schools("01");
+    SchoolPlaces p = desk("01");
     read(p, "3,0f0l9:0");
     read(p, "2,0f1l9:10");
     read(p, "2,0f2l8:0");
@@ -372,7 +260,7 @@ public final class PromiseTests {
   // ---- children
 
   private static void addChild() {
-    SchoolPlaces p = schools("1");
+    SchoolPlaces p = desk("1");
     due(p.addChild(0, 99, 11, 999), 0);
     due(p.child(0, 0), 11);
     due(p.child(0, 1), 999);
@@ -403,7 +291,7 @@ public final class PromiseTests {
   }
 
   private static void readChild() {
-    SchoolPlaces p = schools("111111");
+    SchoolPlaces p = desk("111111");
     due(read(p, "099,008f011l999:5024"), 0);
     due(p.account(10), 0);
     due(p.child(0, 0), 11);
@@ -426,7 +314,7 @@ public final class PromiseTests {
       due(p.account(9), 7);
       dueThrow(NoSuchElementException.class, p::errorPosition);
     }
-    SchoolPlaces few = schools("11");
+    SchoolPlaces few = desk("11");
     feed(few, "0,0f0l0:12");
     dueThrow(IllegalArgumentException.class, few::readChild);
     due(few.account(10), 0);
@@ -454,7 +342,7 @@ public final class PromiseTests {
   }
 
   private static void choose() {
-    SchoolPlaces p = schools("111111");
+    SchoolPlaces p = desk("111111");
     p.addChild(0, 0, 0, 0);
     due(p.choose(0, 5, 0), 1);
     due(p.choose(0, 4, 0), 2);
@@ -493,7 +381,7 @@ public final class PromiseTests {
   }
 
   private static void setNeed() {
-    SchoolPlaces p = schools("11");
+    SchoolPlaces p = desk("11");
     p.addChild(99, 99, 0, 0);
     due(p.setNeed(0, 1), -1);
     due(p.child(0, 2), 1);
@@ -511,7 +399,7 @@ public final class PromiseTests {
   }
 
   private static void child() {
-    SchoolPlaces p = schools("101");
+    SchoolPlaces p = desk("101");
     read(p, "0,0f7l77:120");
     read(p, "0,0f7l78:02");
     p.setNeed(0, 1);
@@ -533,7 +421,7 @@ public final class PromiseTests {
   }
 
   private static void choice() {
-    SchoolPlaces p = schools("1111");
+    SchoolPlaces p = desk("1111");
     read(p, "0,0f0l0:3120");
     read(p, "0,0f0l0");
     int[] due = {3, 1, 2, 0};
@@ -547,7 +435,7 @@ public final class PromiseTests {
   }
 
   private static void rank() {
-    SchoolPlaces p = schools("3");
+    SchoolPlaces p = desk("3");
     p.addChild(20, 0, 0, 0);
     p.addChild(15, 5, 1, 0);
     p.addChild(21, 0, 2, 0);
@@ -611,7 +499,7 @@ public final class PromiseTests {
   }
 
   private static void why() {
-    SchoolPlaces p = schools("1110");
+    SchoolPlaces p = desk("1110");
     read(p, "0,0f0l0:01");
     read(p, "1,0f1l0:01");
     read(p, "2,0f2l0:012");
@@ -651,7 +539,7 @@ public final class PromiseTests {
   // ---- allocating
 
   private static void allocate() {
-    SchoolPlaces p = schools("110");
+    SchoolPlaces p = desk("110");
     read(p, "0,0f0l0:01");
     read(p, "0,1f1l0:10");
     read(p, "0,2f4l0:01");
@@ -690,7 +578,7 @@ public final class PromiseTests {
 
   /** A sibling's mark moves another child in the second round, and the marks of both rounds stay. */
   private static void allocateSiblings() {
-    SchoolPlaces p = schools("21");
+    SchoolPlaces p = desk("21");
     read(p, "0,0f0l0:0");
     read(p, "9,9f0l0:01");
     read(p, "0,5f1l0:01");
@@ -712,7 +600,7 @@ public final class PromiseTests {
     due(q.child(0, 6), 1);
     due(q.child(1, 6), 1);
     // children 0 and 2 mark each other in turn: the seats of the rounds are 0 1 -1, 1 -1 0, 0 -1 1 and 0 -1 1
-    SchoolPlaces r = schools("11");
+    SchoolPlaces r = desk("11");
     read(r, "0,0f0l0:01");
     read(r, "0,1f1l0:10");
     read(r, "0,2f0l0:01");
@@ -727,7 +615,7 @@ public final class PromiseTests {
 
   /** Marks, added seats and appeals go; added seats do not count in rounds. */
   private static void allocateClears() {
-    SchoolPlaces p = schools("1");
+    SchoolPlaces p = desk("1");
     p.setLimit(0, 0);
     read(p, "0,0f0l0:0");
     read(p, "1,0f0l0:0");
@@ -761,7 +649,7 @@ public final class PromiseTests {
   }
 
   private static void again() {
-    SchoolPlaces p = schools("12");
+    SchoolPlaces p = desk("12");
     read(p, "0,0f0l0:01");
     read(p, "0,1f1l0:01");
     read(p, "0,2f0l0:0");
@@ -787,7 +675,7 @@ public final class PromiseTests {
     dueIndex(p, () -> p.again(3));
     dueIndex(p, () -> p.again(-1));
     // it repeats rounds, too: child 1 gets its seat as a sibling only
-    SchoolPlaces q = schools("21");
+    SchoolPlaces q = desk("21");
     read(q, "0,0f0l0:0");
     read(q, "9,9f0l0:01");
     read(q, "0,5f1l0:01");
@@ -796,7 +684,7 @@ public final class PromiseTests {
   }
 
   private static void unstable() {
-    SchoolPlaces p = schools("110");
+    SchoolPlaces p = desk("110");
     read(p, "0,0f0l0:01");
     read(p, "1,0f1l0:012");
     read(p, "2,0f2l0:012");
@@ -816,7 +704,7 @@ public final class PromiseTests {
   }
 
   private static void withdraw() {
-    SchoolPlaces p = schools("111");
+    SchoolPlaces p = desk("111");
     read(p, "0,0f0l0:0");
     read(p, "1,0f0l0:01");
     read(p, "2,0f2l0:012");
@@ -847,7 +735,7 @@ public final class PromiseTests {
   }
 
   private static void appeal() {
-    SchoolPlaces p = schools("11");
+    SchoolPlaces p = desk("11");
     for (int i = 0; i < 7; i++) read(p, i + ",0f" + i + "l0:01");
     p.allocate();
     due(seats(p), "0 1 -1 -1 -1 -1 -1");
@@ -884,16 +772,9 @@ public final class PromiseTests {
     appealAsChange();
   }
 
-  private static void dueRefused(SchoolPlaces p, int child, int school, int strength, int reason) {
-    int entries = p.account(8);
-    dueThrow(IllegalStateException.class, () -> p.appeal(child, school, strength));
-    due(p.reason(), reason);
-    due(p.account(8), entries);
-  }
-
   /** Appeals that are refused for reason 3 or 4 can be undone, the others make no change. */
   private static void appealAsChange() {
-    SchoolPlaces p = schools("1");
+    SchoolPlaces p = desk("1");
     read(p, "0,0f0l0:0");
     read(p, "1,0f1l0:0");
     p.allocate();
@@ -917,7 +798,7 @@ public final class PromiseTests {
     p.allocate();
     due(p.appeal(1, 0, 100), 0);
     // where the choices were changed, an appeal may meet a free seat, which is filled then
-    SchoolPlaces q = schools("1");
+    SchoolPlaces q = desk("1");
     read(q, "0,0f0l0:0");
     read(q, "1,0f1l0:0");
     due(q.appeal(1, 0, 55), 1);
@@ -926,7 +807,7 @@ public final class PromiseTests {
   }
 
   private static void reason() {
-    SchoolPlaces p = schools("0");
+    SchoolPlaces p = desk("0");
     dueNone(p, p::reason);
     read(p, "0,0f0l0:0");
     p.addChild(0, 0, 0, 0);
@@ -948,7 +829,7 @@ public final class PromiseTests {
   // ---- journal and accounts
 
   private static void entry() {
-    SchoolPlaces p = schools("10");
+    SchoolPlaces p = desk("10");
     dueNone(p, () -> p.entry(0, 0));
     read(p, "0,0f0l0:01");
     p.allocate();
@@ -981,7 +862,7 @@ public final class PromiseTests {
   }
 
   private static void account() {
-    SchoolPlaces p = schools("121");
+    SchoolPlaces p = desk("121");
     read(p, "0,0f0l0:0");
     read(p, "1,0f1l0:01");
     read(p, "2,0f2l0:0");
@@ -1002,7 +883,7 @@ public final class PromiseTests {
   }
 
   private static void meanDistance() {
-    SchoolPlaces p = schools("3");
+    SchoolPlaces p = desk("3");
     dueThrow(p, ArithmeticException.class, p::meanDistance);
     read(p, "0,0f0l0:0");
     dueThrow(p, ArithmeticException.class, p::meanDistance);
@@ -1019,7 +900,7 @@ public final class PromiseTests {
   // ---- the input, undo and the snapshot
 
   private static void feed() {
-    SchoolPlaces p = schools("1");
+    SchoolPlaces p = desk("1");
     for (int i = 1; i <= 40; i++) due(p.feed((char) (i * 1637)), i);
     due(p.account(10), 40);
     dueState(p, () -> p.feed('x'));
@@ -1035,7 +916,7 @@ public final class PromiseTests {
   }
 
   private static void errorPosition() {
-    SchoolPlaces p = schools("111111");
+    SchoolPlaces p = desk("111111");
     dueNone(p, p::errorPosition);
     String[] texts = {"", ",", "1", "12", "1234,", "1;", "1,", "1,x", "1,1234", "1,1", "1,1l", "1,1F", "1,1f", "1,1ff",
       "1,1f1", "1,1f1234", "1,1f1:", "1,1f1l", "1,1f1l:", "1,1f1l1234", "1,1f1l1;", "1,1f1l1:", "1,1f1l1:6",
@@ -1089,7 +970,7 @@ public final class PromiseTests {
   }
 
   private static void undoOfMoves() {
-    SchoolPlaces p = schools("10");
+    SchoolPlaces p = desk("10");
     read(p, "0,0f0l0:0");
     read(p, "1,0f1l0:10");
     Call[] changes = {p::allocate, () -> p.setSeats(1, 1), () -> p.setRadius(0, 3), () -> p.setRule(0, 1),
@@ -1115,15 +996,8 @@ public final class PromiseTests {
     due(p.account(8), 0);
   }
 
-  /** Takes out the number of changes that can be undone. */
-  private static String withoutUndos(String all) {
-    String[] parts = all.split(" ");
-    parts[10] = "?";
-    return String.join(" ", parts);
-  }
-
   private static void undoEight() {
-    SchoolPlaces p = schools("1");
+    SchoolPlaces p = desk("1");
     for (int i = 0; i < 20; i++) p.setLimit(0, i);
     due(p.account(9), 8);
     feed(p, "12");
@@ -1146,7 +1020,7 @@ public final class PromiseTests {
   }
 
   private static void save() {
-    SchoolPlaces p = schools("21");
+    SchoolPlaces p = desk("21");
     due(p.save(), 0);
     read(p, "0,0f0l0:0");
     read(p, "1,0f1l0:0");
@@ -1164,7 +1038,7 @@ public final class PromiseTests {
   }
 
   private static void restore() {
-    SchoolPlaces p = schools("11");
+    SchoolPlaces p = desk("11");
     dueState(p, p::restore);
     for (int i = 0; i < 4; i++) read(p, i + ",0f" + i % 2 + "l0:0");
     p.setNeed(3, 1);
@@ -1229,7 +1103,7 @@ public final class PromiseTests {
 
   /** Children and schools that are gone count nowhere. */
   private static void restoreToFew() {
-    SchoolPlaces p = schools("0");
+    SchoolPlaces p = desk("0");
     read(p, "0,0f0l0:0");
     String saved = Calls.everything(p);
     p.save();
