@@ -2,6 +2,7 @@ import java.lang.reflect.InvocationTargetException;
 import java.lang.reflect.Method;
 import java.util.HashMap;
 import java.util.Map;
+import java.util.NoSuchElementException;
 
 /** Makes calls by name on a SchoolPlaces or a PlainModel, and writes their answers as texts. */
 final class Calls {
@@ -14,9 +15,22 @@ final class Calls {
     try {
       return String.valueOf(method(target.getClass(), name).invoke(target, args));
     } catch (InvocationTargetException e) {
+      if (target instanceof SchoolPlaces) refuseWhatTheMachineThrows(e.getCause());
       return e.getCause().getClass().getSimpleName();
     } catch (IllegalAccessException e) {
       throw new IllegalStateException(e);
+    }
+  }
+
+  /** A machine's exception has a name of its own, or was made in a class of the library, or tells of a division. */
+  static void refuseWhatTheMachineThrows(Throwable thrown) {
+    StackTraceElement[] trace = thrown.getStackTrace();
+    boolean named = thrown.getClass() == IndexOutOfBoundsException.class || thrown.getClass() == IllegalArgumentException.class
+        || thrown.getClass() == IllegalStateException.class || thrown.getClass() == NoSuchElementException.class
+        || thrown.getClass() == UnsupportedOperationException.class || thrown.getClass() == ArithmeticException.class;
+    boolean own = trace.length > 0 && trace[0].getClassName().startsWith("SchoolPlaces");
+    if (!named || !own || "/ by zero".equals(thrown.getMessage())) {
+      throw new IllegalStateException("the machine threw " + thrown, thrown);
     }
   }
 

@@ -41,6 +41,7 @@ abstract class Checks {
       fault("threw nothing, due is " + kind.getSimpleName());
     } catch (RuntimeException e) {
       if (e.getClass() != kind) fault("threw " + e + ", due is " + kind.getSimpleName());
+      Calls.refuseWhatTheMachineThrows(e);
     }
   }
 

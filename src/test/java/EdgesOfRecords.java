@@ -742,6 +742,51 @@ final class EdgesOfRecords extends Checks {
     due(withoutTold(p), all);
   }
 
+  @Edge(promise = 31, says = "Saves the schools, pupils, children, marks, seats, appeals and the journal, in place of what was saved before.")
+  static void savedSchoolsAndChildrenComeBackOverOthers() {
+    SchoolPlaces p = new SchoolPlaces();
+    p.addSchool(11, 22, 3, 44);
+    p.addChild(55, 66, 7, 888);
+    p.choose(0, 0, 0);
+    String all = withoutTold(p);
+    p.save();
+    for (int i = 0; i < 3; i++) p.undo();
+    p.addSchool(99, 98, 0, 0);
+    p.addChild(0, 1, 2, 3);
+    p.choose(0, 0, 0);
+    due(p.restore(), 0);
+    due(p.rank(0, 0, 1), 44 + 44);
+    due(p.child(0, 0), 7);
+    due(p.child(0, 1), 888);
+    due(withoutTold(p), all);
+  }
+
+  @Edge(promise = 31, says = "Saves the schools, pupils, children, marks, seats, appeals and the journal, in place of what was saved before.")
+  static void savedJournalComesBackOverOtherEntries() {
+    SchoolPlaces p = deskWithEntries(2);
+    p.setSeats(0, 12);
+    for (int c = 0; c < 4; c++) p.withdraw(c);
+    due(p.account(8), 64);
+    p.setSeats(0, 0);
+    String saved = entries(p, 0);
+    due(p.save(), 8);
+    for (int i = 0; i < 8; i++) p.undo();
+    due(p.account(8), 36);
+    p.setNeed(11, 0);
+    p.setSeats(0, 0);
+    p.allocate();
+    for (int i = 0; i < 4; i++) {
+      p.setSeats(0, 12);
+      p.setSeats(0, 0);
+      p.allocate();
+    }
+    due(p.account(8) > 80, true);
+    due(p.restore(), 8);
+    due(p.account(8), 64);
+    due(entries(p, 0), saved);
+    dueNone(p, () -> p.entry(64, 0));
+  }
+
   @Edge(promise = 32, says = "Restores what was saved last, which stays saved.")
   static void savedDeskStaysSaved() {
     SchoolPlaces p = desk("1", "0,0f0l0:0");

@@ -711,6 +711,15 @@ final class EdgesOfSchools extends Checks {
     read(r, "99,99f1l999:0");
     r.setNeed(1, 0);
     due(list(r, 0, false), "1 0");
+    // the furthest of a class comes before the nearest of the next one
+    r.setNeed(1, -1);
+    due(list(r, 0, false), "0 1");
+    r.setPupils(1, 0, true);
+    due(list(r, 0, false), "1 0");
+    r.setNeed(1, 0);
+    r.setPupils(0, 0, true);
+    due(r.rank(0, 0, 0), 1);
+    due(list(r, 0, false), "1 0");
     // a sibling outside the catchment comes behind the furthest child inside, and before a nearer one outside
     SchoolPlaces s = desk("0", "20,0f0l999:0", "99,99f1l999:0", "21,0f2l0:0");
     s.setPupils(1, 0, true);

@@ -332,6 +332,25 @@ final class EdgesOfSeats extends Checks {
     due(s.unstable(), 1);
   }
 
+  /** With 6 schools and 24 children all pairs are looked at, the last ones, too. */
+  @Edge(promise = 21, says = "Returns the number of pairs of a child and a school such that the child prefers the school, and the school has a "
+      + "free seat or holds a child with a worse rank.")
+  static void unstablePairsOnAFullDesk() {
+    SchoolPlaces p = desk("ccc888");
+    crowd(p, 24, "5432");
+    due(p.unstable(), 4 * 24);
+    p.allocate();
+    due(p.unstable(), 0);
+    due(p.child(23, 4), 3);
+    p.setNeed(23, 5);
+    due(p.unstable(), 1);
+    p.choose(23, 3, 0);
+    due(p.unstable(), 0);
+    p.setSeats(5, 0);
+    for (int c = 0; c < 24; c++) p.choose(c, 2, 0);
+    due(p.unstable(), 24);
+  }
+
   // ---- promise 22: withdraw
 
   @Edge(promise = 22, says = "Lets a child give up its seat and all its choices;")
