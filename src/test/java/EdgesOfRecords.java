@@ -751,7 +751,7 @@ final class EdgesOfRecords extends Checks {
     String all = withoutTold(p);
     p.save();
     for (int i = 0; i < 3; i++) p.undo();
-    p.addSchool(99, 98, 0, 0);
+    p.addSchool(90, 98, 0, 0);
     p.addChild(0, 1, 2, 3);
     p.choose(0, 0, 0);
     due(p.restore(), 0);
