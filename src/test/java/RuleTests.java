@@ -54,7 +54,9 @@ public final class RuleTests {
   public static void main(String[] args) throws IOException {
     face();
     names();
-    source(Files.readAllLines(Path.of(args[0])));
+    List<String> lines = Files.readAllLines(Path.of(args[0]));
+    source(lines);
+    objects(lines);
     System.out.println(wrong == 0 ? "RuleTests: the rules are kept" : "RuleTests: " + wrong + " faults");
     if (wrong != 0) System.exit(1);
   }
@@ -125,7 +127,7 @@ public final class RuleTests {
     int start = 0;
     for (int i = 0; i < lines.size(); i++) {
       String line = lines.get(i);
-      String code = line.replaceAll("\"[^\"]*\"", "\"\"").replaceAll("//.*|^\\s*/?\\*.*", "");
+      String code = code(line);
       for (String word : FORBIDDEN) {
         if (code.matches(".*" + word + ".*")) fault("line " + (i + 1) + " has " + word + ": " + line);
       }
@@ -136,6 +138,23 @@ public final class RuleTests {
         fault("line " + (start + 1) + ": a method of more than 60 lines");
       }
     }
+  }
+
+  /** A run has little room, and README.md says so: only constructors make objects, and what throws makes its exception. */
+  private static void objects(List<String> lines) {
+    boolean constructor = false;
+    for (int i = 0; i < lines.size(); i++) {
+      String code = code(lines.get(i));
+      if (code.matches("\\s+(public )?[A-Z]\\w*\\(.*\\) \\{")) constructor = true;
+      if (code.matches("( {4}| {8})\\}")) constructor = false;
+      boolean makes = code.matches(".*\\bnew\\b.*") && !code.contains("throw new ") || code.matches(".*\\.(clone|values)\\(.*");
+      if (makes && !constructor) fault("line " + (i + 1) + " makes an object: " + lines.get(i));
+    }
+  }
+
+  /** The line without what its texts and comments say. */
+  private static String code(String line) {
+    return line.replaceAll("\"[^\"]*\"", "\"\"").replaceAll("//.*|^\\s*/?\\*.*", "");
   }
 
   private static int indent(String line) { return line.length() - line.stripLeading().length(); }
